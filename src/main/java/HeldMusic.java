@@ -32,8 +32,7 @@ public final class HeldMusic {
     private static final int DEED_SWAP = 2;
     private static final int DEED_MINUTE = 3;
 
-    private final Tape tape = new Tape();
-    private final Reader reader = new Reader(tape);
+    private final Reader reader = new Reader();
     // What is read goes into the draft, which takes the other's place only without a fault.
     private Desk desk = new Desk();
     private Desk deskDraft = new Desk();
@@ -61,10 +60,10 @@ public final class HeldMusic {
     }
 
     public int feed(long a, long b, long c) {
-        tape.write(a);
-        tape.write(b);
-        tape.write(c);
-        return tape.length;
+        reader.tape.write(a);
+        reader.tape.write(b);
+        reader.tape.write(c);
+        return reader.tape.length;
     }
 
     public int office() {
@@ -446,7 +445,7 @@ public final class HeldMusic {
             case 8: return plan.lines;
             case 9: return Integer.bitCount(told);
             case 10: return pastSize;
-            case 11: return tape.length;
+            case 11: return reader.tape.length;
             default: return NONE;
         }
     }
@@ -705,25 +704,17 @@ public final class HeldMusic {
             value = 0;
             if (at >= length) {
                 sort = END;
-            } else if (isLetter(at)) {
+            } else if (signs[at] >= 'a' && signs[at] <= 'z') {
                 takeWord();
-            } else if (isDigit(at)) {
+            } else if (signs[at] >= '0' && signs[at] <= '9') {
                 takeNumber();
             } else {
                 takeSign();
             }
         }
 
-        private boolean isLetter(int at) {
-            return signs[at] >= 'a' && signs[at] <= 'z';
-        }
-
-        private boolean isDigit(int at) {
-            return signs[at] >= '0' && signs[at] <= '9';
-        }
-
         private void takeWord() {
-            while (behind < length && isLetter(behind)) {
+            while (behind < length && signs[behind] >= 'a' && signs[behind] <= 'z') {
                 value = value << 8 | signs[behind];
                 behind++;
             }
@@ -731,7 +722,7 @@ public final class HeldMusic {
         }
 
         private void takeNumber() {
-            while (behind < length && isDigit(behind)) {
+            while (behind < length && signs[behind] >= '0' && signs[behind] <= '9') {
                 value = value * 10 + (signs[behind] - '0');
                 behind++;
             }
@@ -777,15 +768,11 @@ public final class HeldMusic {
         static final long W_OWN = 0x6f776eL;
         static final long W_THEIRS = 0x746865697273L;
 
-        private final Tape tape;
+        final Tape tape = new Tape();
         private int fault;
         private int number;
         private boolean takesTold;
         private boolean lawTold;
-
-        Reader(Tape tape) {
-            this.tape = tape;
-        }
 
         int readOffice(Desk desk) {
             desk.clear();

@@ -882,17 +882,15 @@ public final class HeldMusic {
         }
 
         private boolean isName() {
-            return tape.sort == Tape.WORD && !isLineWord(tape.value) && !isInnerWord(tape.value);
+            long word = tape.value;
+            return tape.sort == Tape.WORD && !isLineWord(word) && kindOf(word) == NONE
+                    && word != W_NOT && word != W_AND && word != W_OR;
         }
 
         private static boolean isLineWord(long word) {
             return word == W_CALLER || word == W_TROUBLE || word == W_KNOWS || word == W_HOLDS
                     || word == W_TAKES || word == W_BELIEVES || word == W_RING || word == W_OFF
                     || word == W_SWAP || word == W_MINUTE;
-        }
-
-        private static boolean isInnerWord(long word) {
-            return kindOf(word) != NONE || word == W_NOT || word == W_AND || word == W_OR;
         }
 
         private static int kindOf(long word) {

@@ -35,8 +35,10 @@ public final class AheadEdgesTest {
         hearsOfEachKind();
         hearsRefused();
         usualTheMostOften();
+        sixCallers();
         usualNobody();
         lostOnTheLine();
+        lostOfEachTrouble();
         lostNobody();
         wisestTheFirstOfEqualOnes();
         wisestNobody();
@@ -424,6 +426,37 @@ public final class AheadEdgesTest {
         Check.due("25: though they are off", x.usual(2), 1);
     }
 
+    private static void sixCallers() {
+        StringBuilder office = new StringBuilder("takes 20;believes 0;");
+        for (int i = 0; i < 6; i++) {
+            office.append("caller ").append((char) ('a' + i)).append(" plain trouble 9 knows ").append(i).append(" holds 30;");
+        }
+        HeldMusic x = rung(office.toString(), 5, 4, 3, 2, 1, 0);
+        x.minute();
+        for (int who = 0; who < 6; who++) {
+            Check.due("25: the usual of " + who, x.usual(who), who ^ 1);
+            Check.due("14: the next of " + who, x.next(who), who ^ 1);
+            Check.due("22: who has " + who, x.holders(who), 1 << who);
+            Check.due("18: who has it at last", x.spread(who), 1 << who);
+            Check.due("17: met again", x.meets(who, who ^ 1), 1);
+            Check.due("23: not believed", x.hears(who, who ^ 1), 0);
+        }
+        Check.due("22: nobody", x.holders(9), 0);
+        // F is taken up in the 20th, the 19th from now.
+        Check.due("18: taken up", x.spread(9), 32);
+        Check.due("15: taken up", x.when(5), 19);
+        Check.due("36: six answers", x.count(6), 6);
+        Check.due("26: all are lost", x.lost(), 63);
+        Check.due("27: the first", x.wisest(), 0);
+        // More often with the last one than with the first.
+        x.swap(5, 0);
+        x.swap(1, 5);
+        x.minute();
+        x.minute();
+        Check.due("25: a's", x.usual(0), 4);
+        Check.due("25: f's", x.usual(5), 1);
+    }
+
     private static void usualNobody() {
         HeldMusic x = rung(FOUR, 0);
         x.minute();
@@ -454,6 +487,20 @@ public final class AheadEdgesTest {
         Check.due("26: who has it himself, who would not hear it", x.lost(), 0);
         x.off(0);
         Check.due("26: by his own answer alone", x.lost(), 0);
+    }
+
+    private static void lostOfEachTrouble() {
+        for (int trouble = 0; trouble <= 9; trouble++) {
+            String office = "caller a plain trouble " + trouble + " knows " + (trouble + 1) % 10 + " holds 9;"
+                + "caller b plain trouble " + (trouble + 1) % 10 + " knows " + trouble + " holds 9;";
+            HeldMusic x = rung(office, 0);
+            Check.due("26: trouble " + trouble, x.lost(), 1);
+            x.ring(1);
+            Check.due("26: no more", x.lost(), 0);
+            // The last on the line has left it: what he has counts no more.
+            x.off(1);
+            Check.due("26: again", x.lost(), 1);
+        }
     }
 
     private static void lostNobody() {

@@ -292,6 +292,7 @@ public final class AheadTest {
         int throwsIt = Integer.MIN_VALUE;
         for (int both = 0; both < 10; both++) {
             for (int says = 0; says < 10; says++) {
+                x = new HeldMusic();
                 for (int listens = 0; listens < 10; listens++) {
                     boolean[] rest = {says == 0, both <= listens, both <= listens, both >= listens};
                     int found = 0;

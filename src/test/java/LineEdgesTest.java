@@ -8,6 +8,7 @@ public final class LineEdgesTest {
 
     public static void main(String[] args) {
         callerWhats();
+        callerSettled();
         callerOthers();
         metOthersAndTheSame();
         placesOfTheLine();
@@ -67,6 +68,27 @@ public final class LineEdgesTest {
         }
         // A place none is NONE, not -2.
         Check.due("5: no place", x.caller(0, 5), -1);
+    }
+
+    private static void callerSettled() {
+        HeldMusic x = Check.opened("takes 3;caller a plain trouble 9 knows 0 holds 9;caller b plain trouble 8 knows 1 holds 9;"
+            + "caller c plain trouble 7 knows 7 holds 9;");
+        x.ring(0);
+        x.ring(1);
+        x.minute();
+        x.ring(2);
+        for (int who = 0; who < 3; who++) {
+            Check.due("5: nobody yet", x.caller(who, 4), 0);
+        }
+        x.minute();
+        Check.due("5: c is", x.caller(2, 4), 1);
+        Check.due("5: a is not", x.caller(0, 4), 0);
+        x.minute();
+        Check.due("5: a is, taken up", x.caller(0, 4), 1);
+        Check.due("5: b is not", x.caller(1, 4), 0);
+        x.undo();
+        Check.due("5: a is not, undone", x.caller(0, 4), 0);
+        Check.due("5: c still is", x.caller(2, 4), 1);
     }
 
     private static void callerOthers() {

@@ -99,6 +99,14 @@ public final class MarkEdgesTest {
         Check.due("36: the elder one's lines", x.count(8), 3);
         Check.due("13: the elder one", x.judged(0), -1);
         Check.due("13: the elder one", x.judged(2), 2);
+        // Each word of a line is held: by the elder day a and b stand together.
+        Check.day(x, "ring a;ring c;ring b;swap c b;minute;");
+        x.mark(1, false);
+        Check.day(x, "ring d;ring a;ring c;swap a c;off d;");
+        x.mark(1, true);
+        Check.due("13: a and b", x.judged(2), 2);
+        Check.due("13: all can be", x.judged(0), -1);
+        Check.day(x, "ring a;ring b;minute;");
         x.mark(1, false);
         Check.day(x, "minute;".repeat(40));
         x.mark(2, false);

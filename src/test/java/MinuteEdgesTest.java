@@ -285,6 +285,14 @@ public final class MinuteEdgesTest {
         }
         Check.due("5: b's place", x.caller(1, 5), -1);
         Check.due("5: b has held nothing", x.caller(1, 6), 0);
+        // Behind some minutes, too.
+        x = rung("takes 20;believes met=3;caller a plain trouble 1 knows 2 holds 9;caller b plain trouble 2 knows 1 holds 9;", 0, 1);
+        x.minute();
+        x.minute();
+        Check.due("5: held two", x.caller(0, 6), 2);
+        Check.due("11: both", x.minute(), 3);
+        Check.due("5: held nothing when settled", x.caller(0, 6), 0);
+        Check.due("5: held nothing when settled", x.caller(1, 6), 0);
     }
 
     private static void heldAMinuteMore() {

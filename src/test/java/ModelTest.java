@@ -10,7 +10,10 @@ import java.util.TreeSet;
 
 /** Promises 2 to 36 by runs of calls drawn with fixed seeds, each answer held against the model's. */
 public final class ModelTest {
-    private static final int RUNS = 600;
+    private static final int RUNS = 4000;
+    /** What is promised of one object, and how much of it is left for asking everything at last. */
+    private static final int MOST_CALLS = 512;
+    private static final int CALLS_AT_LAST = 300;
     private static final String[] KINDS = {"plain", "shy", "gossip", "deaf"};
     private static final String[] NAMES = {"ann", "bob", "held", "met", "own", "theirs", "zz", "q", "abcdefgh"};
 
@@ -22,6 +25,7 @@ public final class ModelTest {
 
     private static Random draw;
     private static String run;
+    private static int calls;
     private static HeldMusic x;
     private static Model model;
     private static Model.State now;
@@ -35,20 +39,37 @@ public final class ModelTest {
             draw = new Random(i);
             run = "run " + i + ": ";
             x = new HeldMusic();
+            calls = 0;
             newOffice();
-            for (int step = 0; step < 25; step++) {
+            // Where nothing is asked between, far more can be done, and undone.
+            boolean asks = below(3) != 0;
+            int steps = below(asks ? 40 : 200);
+            for (int step = 0; step < steps && calls < MOST_CALLS - CALLS_AT_LAST; step++) {
                 change();
-                askCheap();
-                if (step % 4 == 0) {
-                    askDear();
+                if (asks) {
+                    askSome();
                 }
             }
+            askCheap();
+            askDear();
+            Check.due(run + "calls", calls <= MOST_CALLS, true);
         }
         Check.end("ModelTest");
     }
 
     private static void due(String call, long got, long want) {
+        calls++;
         Check.due(run + call, got, want);
+    }
+
+    private static void due(String call, boolean got, boolean want) {
+        calls++;
+        Check.due(run + call, got, want);
+    }
+
+    /** The calls by which a text is fed, its reading not among them. */
+    private static int callsToFeed(String text) {
+        return 1 + (text.length() + 23) / 24;
     }
 
     private static int below(int m) {
@@ -99,6 +120,7 @@ public final class ModelTest {
             newOffice();
             return;
         }
+        calls += callsToFeed(text);
         due("office of " + text, Check.office(x, text), 0);
         model = new Model(people, takes, law);
         now = model.start();
@@ -206,7 +228,7 @@ public final class ModelTest {
         Model.State before = now.copy();
         int a = anyone();
         int b = anyone();
-        switch (below(16)) {
+        switch (below(18)) {
             case 0: case 1: case 2: case 3: case 4: case 5: {
                 boolean can = isCaller(a) && Model.ring(now, a);
                 due("ring " + a, x.ring(a), can ? now.line.size() - 1 : -1);
@@ -217,7 +239,7 @@ public final class ModelTest {
             }
             case 6: {
                 boolean can = isCaller(a) && Model.off(now, a);
-                Check.due(run + "off " + a, x.off(a), can);
+                due("off " + a, x.off(a), can);
                 if (can) {
                     keep(before);
                 }
@@ -225,7 +247,7 @@ public final class ModelTest {
             }
             case 7: case 8: {
                 boolean can = isCaller(a) && isCaller(b) && Model.swap(now, a, b);
-                Check.due(run + "swap " + a + " " + b, x.swap(a, b), can);
+                due("swap " + a + " " + b, x.swap(a, b), can);
                 if (can) {
                     keep(before);
                 }
@@ -237,7 +259,7 @@ public final class ModelTest {
                 break;
             case 12: {
                 boolean can = !past.isEmpty();
-                Check.due(run + "undo", x.undo(), can);
+                due("undo", x.undo(), can);
                 if (can) {
                     now = past.pop();
                 }
@@ -245,7 +267,7 @@ public final class ModelTest {
             }
             case 13: {
                 boolean settled = below(2) == 0;
-                Check.due(run + "tell " + a, x.tell(a, settled), isCaller(a));
+                due("tell " + a, x.tell(a, settled), isCaller(a));
                 if (isCaller(a)) {
                     told.put(a, settled);
                 }
@@ -254,17 +276,33 @@ public final class ModelTest {
             case 14:
                 goMarks();
                 break;
+            case 15:
+                if (below(3) == 0) {
+                    newOffice();
+                }
+                break;
+            case 16:
+                wrongText(below(2) == 0);
+                break;
             default:
                 newDay();
                 break;
         }
     }
 
+    /** A text with a fault at its last sign, behind which all stays. */
+    private static void wrongText(boolean office) {
+        String text = office ? "takes 7;caller q shy trouble 1 knows 2 holds 3;believes 0;?" : "minute;minute;?";
+        calls += callsToFeed(text);
+        int fault = office ? Check.office(x, text) : Check.day(x, text);
+        due("wrong text", fault, Check.fault(1, text.length() - 1));
+    }
+
     private static void goMarks() {
         int i = below(6) - 1;
         boolean back = below(2) == 0;
         boolean can = i >= 0 && i < 4 && (!back || marks.containsKey(i));
-        Check.due(run + "mark " + i + " " + back, x.mark(i, back), can);
+        due("mark " + i + " " + back, x.mark(i, back), can);
         if (can && back) {
             Laid laid = marks.get(i);
             now = laid.state.copy();
@@ -307,6 +345,7 @@ public final class ModelTest {
             lines.add(new int[] {deed, a, b});
         }
         if (text.length() <= 1000) {
+            calls += callsToFeed(text.toString());
             due("day of " + text, Check.day(x, text.toString()), 0);
             day = lines;
         }
@@ -346,6 +385,20 @@ public final class ModelTest {
             bits |= s.has.get(i).contains(answer) ? 1 << i : 0;
         }
         return bits;
+    }
+
+    /** A part of all that can be asked, so that an answer kept too long shows. */
+    private static void askSome() {
+        switch (below(8)) {
+            case 0: askCaller(anyone()); break;
+            case 1: askTwo(anyone(), anyone()); break;
+            case 2: askLostAndWisest(); break;
+            case 3: askDays(); break;
+            case 4: askOrder(); break;
+            case 5: askDealAndChance(); break;
+            case 6: askSets(); break;
+            default: due("empty", x.empty(), model.ahead(now).size() - 1); break;
+        }
     }
 
     private static void askCheap() {

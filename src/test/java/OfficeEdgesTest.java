@@ -26,6 +26,7 @@ public final class OfficeEdgesTest {
         allIsNewBehindAnOffice();
         fewerCallersThanBefore();
         theLawIsNewBehindAnOffice();
+        manyLawsOneBehindAnother();
         allStaysBehindAFault();
         anOfficeBehindAFault();
         Check.end("OfficeEdgesTest");
@@ -347,6 +348,22 @@ public final class OfficeEdgesTest {
         Check.due("23: without believes: 1", x.hears(0, 1), 4);
         Check.due("3: a wrong one with a law", Check.office(x, "believes 0;" + two + ";"), Check.fault(1, two.length() + 11));
         Check.due("23: still without", x.hears(0, 1), 4);
+    }
+
+    private static void manyLawsOneBehindAnother() {
+        String two = "caller a plain trouble 9 knows 1 holds 3;caller b plain trouble 9 knows 2 holds 3;";
+        HeldMusic x = new HeldMusic();
+        String[] laws = {"believes 0;", "believes 0;", "", "believes 0;", "believes 0;", "believes 1;", "believes 1;", "",
+            "believes 1;", "believes 0;", "", ""};
+        for (String law : laws) {
+            Check.due("3: office with '" + law + "'", Check.office(x, two + law), 0);
+            Check.due("23: by '" + law + "'", x.hears(0, 1), law.equals("believes 0;") ? 0 : 4);
+        }
+        // A law told only in an office with a fault is never one.
+        Check.due("3: a fault", Check.office(x, "believes 0;?"), Check.fault(1, 11));
+        Check.due("3: once more", Check.office(x, "believes 0;?"), Check.fault(1, 11));
+        Check.due("3: an office", Check.office(x, two), 0);
+        Check.due("23: without believes: 1", x.hears(0, 1), 4);
     }
 
     private static void allStaysBehindAFault() {

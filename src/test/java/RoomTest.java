@@ -144,12 +144,12 @@ public final class RoomTest {
     /** Every call with arguments from afar, in some states: none may throw but rests. */
     private static void farArguments() {
         int[] far = {Integer.MIN_VALUE, -1000, -2, -1, 0, 5, 6, 7, 31, 32, 36, 64, 1000, Integer.MAX_VALUE};
-        HeldMusic[] states = {new HeldMusic(), dearest(0), dearest(4)};
-        for (int i = 0; i < 6; i++) {
-            states[2].ring(i);
-        }
-        for (HeldMusic x : states) {
-            for (int a : far) {
+        for (int a : far) {
+            HeldMusic[] states = {new HeldMusic(), dearest(0), dearest(4)};
+            for (int i = 0; i < 6; i++) {
+                states[2].ring(i);
+            }
+            for (HeldMusic x : states) {
                 one(x, a);
                 for (int b : far) {
                     two(x, a, b);

@@ -20,6 +20,7 @@ public final class RowsEdgesTest {
         helpersTheFewest();
         helpersTheLeastOfEqualSets();
         helpersRingByNumbers();
+        helpersOfAnyone();
         helpersByNone();
         helpersAllOfThem();
         helpersAreFree();
@@ -28,6 +29,7 @@ public final class RowsEdgesTest {
         dealOfOneToSix();
         dealTheMostInTheMinuteToCome();
         dealTheFirstOfEqualRows();
+        dealTheVeryLastRow();
         dealFirstTellsFirst();
         dealAndTaking();
         dealOthers();
@@ -236,6 +238,20 @@ public final class RowsEdgesTest {
         Check.due("20: b rings ahead of c", rung(late, 0).helpers(0), -1);
     }
 
+    private static void helpersOfAnyone() {
+        // The same for each of them: who has his answer is the one before him, the first's is the last.
+        StringBuilder office = new StringBuilder("takes 20;");
+        for (int i = 0; i < 6; i++) {
+            office.append("caller ").append((char) ('a' + i)).append(" plain trouble ").append(i).append(" knows ")
+                .append((i + 1) % 6).append(" holds 1;");
+        }
+        for (int who = 0; who < 6; who++) {
+            HeldMusic x = rung(office.toString(), who);
+            Check.due("20: helpers of " + who, x.helpers(who), 1 << (who + 5) % 6);
+            Check.due("20: who is not on the line", x.helpers((who + 1) % 6), -1);
+        }
+    }
+
     private static void helpersByNone() {
         Check.due("20: nobody has the answer", rung(FOUR, 2).helpers(2), -1);
         Check.due("20: a deaf one", rung("takes 20;caller a deaf trouble 1 knows 0 holds 9;caller b plain trouble 9 knows 1 holds 9;", 0).helpers(0), -1);
@@ -302,6 +318,13 @@ public final class RowsEdgesTest {
         deal(rung(six, 5, 4, 2, 1), 4, 1, 4, 2, 5);
         deal(rung(six, 5, 4, 3, 2, 1), 4, 1, 4, 2, 5, 3);
         deal(rung(six, 5, 4, 3, 2, 1, 0), 6, 0, 3, 1, 4, 2, 5);
+        // Whatever was asked ahead of it, of whom more are settled than there are on the line.
+        HeldMusic x = rung(six, 1, 4);
+        order(x, 6, 0, 3, 2, 5);
+        x.ring(0);
+        deal(x, 2, 1, 4, 0);
+        order(x, 6, 3, 2, 5);
+        deal(x, 2, 1, 4, 0);
     }
 
     private static void dealTheMostInTheMinuteToCome() {
@@ -321,6 +344,18 @@ public final class RowsEdgesTest {
         deal(rung(FOUR, 3, 2, 0), 0, 0, 2, 3);
         deal(rung("takes 20;caller a plain trouble 9 knows 0 holds 1;caller b plain trouble 1 knows 2 holds 1;"
             + "caller c plain trouble 9 knows 0 holds 1;caller d plain trouble 2 knows 1 holds 1;", 3, 2, 1, 0), 2, 0, 2, 1, 3);
+    }
+
+    private static void dealTheVeryLastRow() {
+        // F tells e what d has; d tells c, and c, a gossip, tells d what b has: by no other row are there three.
+        HeldMusic x = rung("takes 2;believes theirs<3;caller a deaf trouble 1 knows 0 holds 2;caller b deaf trouble 1 knows 2 holds 2;"
+            + "caller c gossip trouble 4 knows 0 holds 1;caller d plain trouble 2 knows 4 holds 3;caller e plain trouble 4 knows 3 holds 2;"
+            + "caller f gossip trouble 4 knows 1 2 holds 2;", 0, 1, 2, 3, 4, 5);
+        deal(x, 3, 5, 4, 3, 2, 1, 0);
+        x.swap(0, 5);
+        x.swap(1, 4);
+        x.swap(2, 3);
+        Check.due("11: as dealt", x.minute(), 28);
     }
 
     private static void dealFirstTellsFirst() {

@@ -96,6 +96,18 @@ public final class LawEdgesTest {
         fault("1**1;", 1, 2);
         fault("1*;", 1, 2);
         fault("*1;", 1, 0);
+        // Of two that can't stand there the first is told.
+        fault("**;", 1, 0);
+        fault("++;", 1, 0);
+        fault("--;", 1, 0);
+        fault("<<;", 1, 0);
+        fault("1***1;", 1, 2);
+        fault("1+++1;", 1, 2);
+        fault("1<<<1;", 1, 2);
+        fault("1==1;", 1, 2);
+        fault("and and;", 1, 0);
+        fault("1 and and and 1;", 1, 6);
+        fault("1 or and 1;", 1, 5);
     }
 
     private static void notIsOfItsPartAlone() {

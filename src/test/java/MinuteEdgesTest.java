@@ -37,7 +37,6 @@ public final class MinuteEdgesTest {
         takenUpHasTheAnswer();
         minuteAnswersWhoIsSettledByIt();
         itIsTheNextMinute();
-        fiveHundredAndTwelveCalls();
         Check.end("MinuteEdgesTest");
     }
 
@@ -437,46 +436,5 @@ public final class MinuteEdgesTest {
             x.minute();
             Check.due("36: the minute", x.count(2), i);
         }
-    }
-
-    private static void fiveHundredAndTwelveCalls() {
-        String two = "takes 20;caller a plain trouble 9 knows 0 holds 30;caller b plain trouble 9 knows 1 holds 30;believes met=503;";
-        int calls = (two.length() + 23) / 24 + 1;
-        HeldMusic x = new HeldMusic();
-        for (int i = 0; i < two.length(); i += 24) {
-            x.feed(Check.eight(two, i), Check.eight(two, i + 8), Check.eight(two, i + 16));
-        }
-        x.office();
-        while (calls < 511) {
-            x.minute();
-            calls++;
-        }
-        Check.due("36: the 512th call", x.count(2), 511 - (two.length() + 23) / 24 - 1);
-        // The most meetings that so many calls allow are told as they are.
-        x = new HeldMusic();
-        String law = "takes 20;caller a plain trouble 9 knows 0 holds 30;caller b plain trouble 9 knows 1 holds 30;believes 420<met;";
-        calls = (law.length() + 23) / 24 + 1;
-        for (int i = 0; i < law.length(); i += 24) {
-            x.feed(Check.eight(law, i), Check.eight(law, i + 8), Check.eight(law, i + 16));
-        }
-        x.office();
-        int met = 0;
-        while (calls < 480 && met < 420) {
-            x.ring(0);
-            x.ring(1);
-            calls += 2;
-            for (int i = 0; i < 19; i++) {
-                x.minute();
-                calls++;
-                met++;
-            }
-            x.off(0);
-            x.off(1);
-            x.minute();
-            calls += 3;
-        }
-        Check.due("6: as often as they met", x.met(0, 1), met);
-        Check.due("36: answers as told", x.count(6), 2 + (met > 420 ? 2 : 0));
-        Check.due("within so many calls", calls + 2 <= 512, true);
     }
 }

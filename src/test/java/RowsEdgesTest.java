@@ -95,6 +95,13 @@ public final class RowsEdgesTest {
             six += "caller " + (char) ('a' + i) + " plain trouble " + i + " knows " + (i + 3) % 6 + " holds 1;";
         }
         order(Check.opened(six), 6, 0, 3, 1, 4, 2, 5);
+        // Whatever was asked of all six on the line ahead of it.
+        HeldMusic x = rung(six, 0, 1, 2, 3, 4, 5);
+        deal(x, 6, 0, 3, 1, 4, 2, 5);
+        for (int who = 0; who < 6; who++) {
+            x.off(who);
+        }
+        order(x, 6, 0, 3, 1, 4, 2, 5);
     }
 
     private static void orderTheVeryLastRow() {

@@ -21,6 +21,7 @@ public final class TapeEdgesTest {
         blanksWhereOneLikes();
         blanksPartTokens();
         everySignThatIsNone();
+        numbersAreNoSigns();
         longerOnesAtTheirFirstSign();
         Check.end("TapeEdgesTest");
     }
@@ -258,6 +259,31 @@ public final class TapeEdgesTest {
                 joins ? 0 : Check.fault(1, sign == ';' ? 11 : 10));
             Check.due("at the end of a line: " + sign, Check.day(new HeldMusic(), "minute" + sign),
                 sign == ';' ? 0 : Check.fault(1, 6));
+            Check.due("for a name: " + sign, named("" + sign), Check.fault(1, 7));
+            Check.due("for a name in a day: " + sign, Check.day(new HeldMusic(), "ring " + sign + ";"), Check.fault(1, 5));
+            Check.due("for a number: " + sign, Check.office(new HeldMusic(), "takes " + sign + ";"), Check.fault(1, 6));
+            // Right behind a word or a number it is no part of it.
+            Check.due("behind a name: " + sign, named("a" + sign), Check.fault(1, 8));
+            Check.due("behind a number: " + sign, Check.office(new HeldMusic(), "takes 7" + sign),
+                sign == ';' ? 0 : Check.fault(1, 7));
+        }
+    }
+
+    /** A number is not the sign, nor the letter, that has this code. */
+    private static void numbersAreNoSigns() {
+        for (int i = 0; i < SIGNS.length(); i++) {
+            int code = SIGNS.charAt(i);
+            Check.due("a line's end: " + code, Check.office(new HeldMusic(), "takes 7 " + code), Check.fault(1, 8));
+            Check.due("a day's line's end: " + code, Check.day(new HeldMusic(), "minute " + code), Check.fault(1, 7));
+            Check.due("between two: " + code, Check.office(new HeldMusic(), "believes 1 " + code + " 1;"), Check.fault(1, 11));
+            HeldMusic x = Check.opened("caller a plain trouble 9 knows 1 holds 9;caller b plain trouble 9 knows 2 holds 9;believes "
+                + code + "=" + (code - 1) + "+1;");
+            Check.due("its own value: " + code, x.hears(0, 1), 4);
+        }
+        for (int code = 'a'; code <= 'z'; code++) {
+            HeldMusic x = Check.opened("caller " + (char) code + " plain trouble 9 knows 1 holds 9;");
+            Check.due("no name: " + code, Check.day(x, "ring " + code + ";"), Check.fault(1, 5));
+            Check.due("a name: " + (char) code, Check.day(x, "ring " + (char) code + ";"), 0);
         }
     }
 

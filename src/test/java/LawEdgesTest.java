@@ -41,6 +41,13 @@ public final class LawEdgesTest {
         Check.due("office of '" + text + "'", Check.office(new HeldMusic(), text), want);
     }
 
+    /** What comes of a sum is this, and neither one more nor one less. */
+    private static void comes(String sum, int value) {
+        is(sum + "=" + value, true);
+        is(sum + "=" + (value + 1), false);
+        is(sum + "+1=" + value, false);
+    }
+
     private static void andAndOrFromTheLeft() {
         is("1 or 1 and 0", false);
         is("1 or (1 and 0)", true);
@@ -77,14 +84,16 @@ public final class LawEdgesTest {
     }
 
     private static void sumsAndProducts() {
-        is("10-3-2=5", true);
-        is("10-(3-2)=9", true);
-        is("10-3+2=9", true);
-        is("2+3*4=14", true);
-        is("2*3+4=10", true);
-        is("2*3*4=24", true);
-        is("20-2*3-4=10", true);
-        is("(2+3)*4=20", true);
+        comes("10-3-2", 5);
+        comes("10-(3-2)", 9);
+        comes("10-3+2", 9);
+        comes("2+3*4", 14);
+        comes("2*3+4", 10);
+        comes("2*3*4", 24);
+        comes("20-2*3-4", 10);
+        comes("(2+3)*4", 20);
+        comes("4*(2+3)", 20);
+        comes("1-(2-(3-(4-5)))", 3);
         is("1+1<3", true);
         is("3<1+1", false);
         is("0*9999", false);
@@ -111,16 +120,24 @@ public final class LawEdgesTest {
     }
 
     private static void notIsOfItsPartAlone() {
-        is("not 0+1=2", true);
-        is("not 1+1=1", true);
-        is("not (1+1)=0", true);
-        is("not 0*5=5", true);
+        comes("not 0+1", 2);
+        comes("not 1+1", 1);
+        comes("not (1+1)", 0);
+        comes("not 0*5", 5);
+        comes("not 2", 0);
+        comes("not not 5", 1);
+        comes("1+not 0", 2);
+        comes("1+not 7", 1);
+        comes("2*not 0", 2);
+        comes("3-not 0-not 0", 1);
+        comes("1+2*not 0", 3);
         is("not 0 and 0", false);
         is("not 1 or 1", true);
-        is("not 2=0", true);
-        is("not not 5=1", true);
-        is("1+not 0=2", true);
-        is("2*not 0=2", true);
+        is("1 and not 1", false);
+        is("1 and not 0", true);
+        is("0 or not 1", false);
+        is("1<not 0", false);
+        is("0<not 0", true);
         fault("1 not 1;", 1, 2);
         fault("not;", 1, 3);
         fault("not and 1;", 1, 4);
@@ -181,6 +198,12 @@ public final class LawEdgesTest {
         is("0000", false);
         is("0001=1", true);
         is("9999=9998+1", true);
+        for (int hundred = 0; hundred < 100; hundred++) {
+            HeldMusic x = new HeldMusic();
+            for (int number = 100 * hundred; number < 100 * hundred + 100; number++) {
+                Check.due("believes " + number, Check.office(x, "believes " + number + ";"), 0);
+            }
+        }
         fault("10000;", 1, 0);
         fault("1+10000;", 1, 2);
         fault("00000;", 1, 0);
